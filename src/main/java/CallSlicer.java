@@ -326,8 +326,10 @@ public final class CallSlicer {
 
         /** Whether what a statement throws leaves its procedure. */
         private boolean escapes(int statement) {
-            boolean throwing = kind[statement] == THROW || kind[statement] == CALL && decides(statement);
-            return throwing && catchVariable[statement] < 0;
+            if (catchVariable[statement] >= 0) {
+                return false;
+            }
+            return kind[statement] == THROW || kind[statement] == CALL && has(mayThrow, callee[statement]);
         }
 
         private boolean tellsStraight(int statement, int told) {
@@ -465,35 +467,13 @@ public final class CallSlicer {
 
         /** The fault of the text, 0 if it has none: then the code is whole. */
         private int read(byte[] bytes, int count, Code into) {
-            text = bytes;
-            length = Math.min(count, bytes.length);
-            place = 0;
-            blamed = 0;
-            code = into;
-            code.clear();
-            tree.items = 0;
-            open = 0;
-            readText();
-            if (blamed == 0 && !code.callsOnlyTold()) {
-                blame(UNTOLD_CALL, length);
-            }
-            if (blamed == 0) {
-                wiring.wire(code);
-                code.settleEnds();
-                if (!code.allMayEnd()) {
-                    blame(ENDLESS, length);
-                }
-            }
-            return blamed;
-        }
-
-        /** Each turn takes a byte at least or blames one, so no more turns are needed. */
-        private void readText() {
+            start(bytes, count, into);
             readProcedure();
+            // Each turn takes a byte at least or blames one, so no more turns are needed.
             for (int turn = 0; turn <= TAPE_BYTES && blamed == 0; turn++) {
                 int token = look();
                 if (open == 0 && token == TEXT_END) {
-                    return;
+                    break;
                 } else if (open == 0) {
                     readProcedure();
                 } else if (token == '}') {
@@ -503,6 +483,35 @@ public final class CallSlicer {
                 } else {
                     readStatement(token);
                 }
+            }
+            finish();
+            return blamed;
+        }
+
+        private void start(byte[] bytes, int count, Code into) {
+            text = bytes;
+            length = Math.min(count, bytes.length);
+            place = 0;
+            blamed = 0;
+            code = into;
+            code.clear();
+            tree.items = 0;
+            open = 0;
+        }
+
+        /** What can only be told behind the whole text. */
+        private void finish() {
+            if (blamed != 0) {
+                return;
+            }
+            if (!code.callsOnlyTold()) {
+                blame(UNTOLD_CALL, length);
+                return;
+            }
+            wiring.wire(code);
+            code.settleEnds();
+            if (!code.allMayEnd()) {
+                blame(ENDLESS, length);
             }
         }
 
@@ -695,16 +704,16 @@ public final class CallSlicer {
         }
 
         private int readNumber() {
-            int start = place;
+            int begin = place;
             int number = 0;
             while (place < length && isDigit(text[place])) {
-                if (place - start < 3) {
+                if (place - begin < 3) {
                     number = number * 10 + text[place] - '0';
                 }
                 place++;
             }
-            if (place - start > 3) {
-                blame(LONG_NUMBER, start);
+            if (place - begin > 3) {
+                blame(LONG_NUMBER, begin);
             }
             return number;
         }
@@ -1119,13 +1128,12 @@ public final class CallSlicer {
             spread(found, DOWN);
         }
 
-        private void findFrom(int statement) {
+        private void beginFrom(int statement) {
             clearFound();
             int parts = code.kind[statement] == CALL ? PARTS : 1;
             for (int part = 0; part < parts; part++) {
                 add(risen, part, bit(statement));
             }
-            findOn();
         }
 
         private long statementsFound() {
@@ -1138,7 +1146,8 @@ public final class CallSlicer {
 
         private long backFrom(int statement) {
             if (!has(backsKnown, statement)) {
-                findFrom(statement);
+                beginFrom(statement);
+                findOn();
                 backs[statement] = statementsFound();
                 backsKnown |= bit(statement);
             }
@@ -1171,7 +1180,8 @@ public final class CallSlicer {
         }
 
         private long findKept(int statement) {
-            findFrom(statement);
+            beginFrom(statement);
+            findOn();
             boolean grown = true;
             for (int round = 0; round <= STATEMENTS * PORTS && grown; round++) {
                 grown = completeCalls();
