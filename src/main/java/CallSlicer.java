@@ -814,7 +814,6 @@ public final class CallSlicer {
             Arrays.fill(rows, 0L);
             Arrays.fill(byValue, 0L);
             Arrays.fill(byWay, 0L);
-            Arrays.fill(onBegin, 0L);
             tieByWay();
             for (int name = 0; name < NAMES; name++) {
                 findTellers(name);

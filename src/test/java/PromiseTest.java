@@ -125,6 +125,11 @@ public final class PromiseTest {
         due("nothing was run", x.ended(0), -1);
         due("nothing was seen", x.saw(0, -1), 0);
         due("slices are the new program's", x.back(1), -1);
+        Feeding.program(x, "A{w=5;}");
+        x.run(0, 0);
+        due("it saw", x.saw(0, -1), 1);
+        Feeding.program(x, "A{w=5;}");
+        due("not the new one", x.saw(0, -1), 0);
         due("forty", Feeding.program(x, "A{" + times("a=1;", 40) + "}"), 40);
         due("blanks", Feeding.program(x, "A { a = B ( 1 , b ) ; } \n B{ ^ 999 ; }"), 2);
         due("run", x.run(0, 0), 0);
@@ -207,8 +212,11 @@ public final class PromiseTest {
         dueFault("A{^1;}B{a=C(1,2);}C{a=B(1,2);^1;}", 6, 33);
         dueFault("A{a=1234;a=B(1,2);", 2, 4);
         CallSlicer x = new CallSlicer();
+        dueFault("A{" + times(" ", 494) + "a=12", 1, 500);
+        dueFault("A{" + times(" ", 492) + "a=1234", 2, 496);
         due("six deep", Feeding.program(x, "A{" + times("%{", 6) + "a=1;" + times("}b{}", 6) + "}"), 1);
         due("its depth", x.of(0, 2), 6);
+        due("it is done", x.run(0, 0) + x.ended(2), 1);
         due("trys are not numbered", Feeding.program(x, "A{" + times("%{}a{}", 82) + "}"), 0);
         due("forty with a try", Feeding.program(x, "A{" + times("a=1;", 40) + "%{}b{}}"), 40);
         due("it may end by its test", Feeding.program(x, "A{?a<1{^1;}b=A(a,b);}"), 3);
@@ -378,6 +386,10 @@ public final class PromiseTest {
         due("z", y.summary(2, 5, 0), false);
         due("z to z", y.summary(2, 5, 5), true);
         due("it throws not", y.summary(2, 0, 1), false);
+        CallSlicer z = Feeding.with("A{?a<1{^b;}c=A(a,b);^c;}");
+        due("b to the value", z.summary(2, 1, 0), true);
+        Feeding.program(z, "A{?a<1{^0;}c=A(0,b);^c;}");
+        due("not so in the next program", z.summary(2, 1, 0), false);
     }
 
     /** Promises 11, 12 and 13. */
@@ -415,6 +427,8 @@ public final class PromiseTest {
         due("x", x.backOf(1, 3), bits(0));
         due("A's x: nothing but the call's", x.backOf(0, 3), bits(0));
         due("y behind a return", x.backOf(1, 4), bits(0, 2, 3, 4, 5, 6));
+        CallSlicer z = Feeding.with("A{c=B(1,2);}B{w=3;}C{d=A(1,2);}");
+        due("out of a call hangs on it, it on its begin, that on calls", z.backOf(0, 2), bits(0, 1, 2));
         due("none such", x.backOf(2, 0), -1);
         due("none such", x.backOf(-1, 0), -1);
         due("none such", x.backOf(0, 6), -1);
@@ -440,6 +454,10 @@ public final class PromiseTest {
         CallSlicer k = Feeding.with("A{e=6;d=B(e,1);x=w;c=B(2,3);?c<x{^c;}}B{w=b;^a;}");
         due("back: a of the first call is not used", k.back(5), bits(1, 2, 3, 4, 5, 6, 7));
         due("kept: it is given a as well", k.kept(5), bits(0, 1, 2, 3, 4, 5, 6, 7));
+        CallSlicer s = Feeding.with("A{f=6;e=C(f,1);d=B(e,1);x=w;c=B(2,3);b=C(7,8);?c<x{?b<y{^c;}}}"
+            + "B{w=b;^a;}C{y=a;^b;}");
+        due("back", s.back(8), bits(2, 3, 4, 5, 6, 7, 8, 9, 10, 11, 12));
+        due("and so on: a call that is kept for a call", s.kept(8), bits(0, 1, 2, 3, 4, 5, 6, 7, 8, 9, 10, 11, 12));
         due("none such", x.kept(6), -1);
         due("none such", x.kept(-1), -1);
     }
@@ -481,6 +499,9 @@ public final class PromiseTest {
         CallSlicer g = Feeding.with("A{%{!1;}e{}w=5;%{}e{w=6;}}");
         g.run(0, 0);
         due("an empty catch", g.ended(3), 5);
+        CallSlicer h = Feeding.with("A{%{c=B(1,2);}a{^a;}}B{%{%{!5;}f{!f;}}a{!a;}}");
+        due("a as the catch's variable", h.run(9, 9), 0);
+        due("what came to it", h.ended(1), 5);
     }
 
     /** Promise 16: where a run is cut. */
