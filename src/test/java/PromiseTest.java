@@ -217,6 +217,10 @@ public final class PromiseTest {
         due("six deep", Feeding.program(x, "A{" + times("%{", 6) + "a=1;" + times("}b{}", 6) + "}"), 1);
         due("its depth", x.of(0, 2), 6);
         due("it is done", x.run(0, 0) + x.ended(2), 1);
+        Feeding.program(x, "A{" + times("?1<0{}:{", 6) + "w=1;" + times("}", 6) + "}");
+        due("six deep behind :", x.run(0, 0) + x.ended(3), 1);
+        Feeding.program(x, "A{" + times("@w<1{", 5) + "%{!1;}b{w=b;}" + times("}", 5) + "}");
+        due("six deep in loops", x.run(0, 0) + x.ended(3), 1);
         due("trys are not numbered", Feeding.program(x, "A{" + times("%{}a{}", 82) + "}"), 0);
         due("forty with a try", Feeding.program(x, "A{" + times("a=1;", 40) + "%{}b{}}"), 40);
         due("it may end by its test", Feeding.program(x, "A{?a<1{^1;}b=A(a,b);}"), 3);
