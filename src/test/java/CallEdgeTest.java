@@ -24,6 +24,7 @@ public final class CallEdgeTest {
         endAlone();
         endRefused();
         programTakesTape();
+        programReplaces();
         programForgets();
         programStays();
         faultStands();
@@ -243,6 +244,47 @@ public final class CallEdgeTest {
         DUE.is("the empty tape is no program", y.program(), -2);
         DUE.is("its fault", y.fault(), 1);
         DUE.is("the one before it stays", y.count(0), 1);
+    }
+
+    /** One answer to each question that needs the program, each asked first of all on an object. */
+    private static long askFirst(CallSlicer x, int question) {
+        switch (question) {
+            case 0: return x.hangs(2, 0);
+            case 1: return x.begun(1);
+            case 2: return x.summary(1, 0, 0) ? 1 : 0;
+            case 3: return x.back(2);
+            case 4: return x.forth(0);
+            case 5: return x.between(0, 2);
+            case 6: return x.backOf(1, 0);
+            case 7: return x.kept(2);
+            case 8: return x.runKept(2, 5, 6) + 10L * x.ended(2) + 100L * x.saw(2, 0);
+            case 9: return x.run(5, 6) + 10L * x.ended(2) + 100L * x.ended(1);
+            case 10: return x.summary(2, 1, 0) ? 1 : 0;
+            default: return x.count(question - 11);
+        }
+    }
+
+    private static void programReplaces() {
+        DUE.sentence("(the PROGRAM is what the TAPE was, and nothing of what was one before)");
+        String[] texts = {"A{w=a;c=B(w,b);^w;}B{x=1;^a;}", "A{w=a;c=B(w,b);d=c+w;^d;}B{?a<b{!a;}^b;}",
+            "A{@a<b{a=a+1;^a;}}", "A{}", "A{a=1*2;b=a-2;c=b*a;d=3;%{!d;}e{^e;}}B{!1;}C{d=B(1,2);}",
+            "A{?a<1{^b;}c=A(a,b);^c;}", "A{?a<1{^0;}c=A(0,b);^c;}"};
+        long[] ofFirst = {0, 24, 1, 7, 23, 7, 19, 7, 530, 550, 0, 5, 2, 1, 0, 3};
+        for (int question = 0; question < ofFirst.length; question++) {
+            long[] alone = new long[texts.length];
+            for (int t = 0; t < texts.length; t++) {
+                alone[t] = askFirst(Feeding.with(texts[t]), question);
+            }
+            DUE.is("question " + question, alone[0], ofFirst[question]);
+            for (int pair = 0; pair < texts.length * texts.length; pair++) {
+                CallSlicer x = new CallSlicer();
+                for (int turn = 0; turn < 4; turn++) {
+                    int t = turn < 2 ? pair / texts.length : pair % texts.length;
+                    Feeding.program(x, texts[t]);
+                    DUE.is("question " + question + " of '" + texts[t] + "'", askFirst(x, question), alone[t]);
+                }
+            }
+        }
     }
 
     private static void programForgets() {

@@ -30,6 +30,8 @@ public final class HangEdgeTest {
         onBegin();
         onHow();
         onCallItself();
+        upToCalls();
+        downFromCalls();
         matching();
         itselfToo();
         forthAndBetween();
@@ -166,6 +168,10 @@ public final class HangEdgeTest {
         dueEnds("A{%{^1;}e{!e;}}", 0, 1);
         dueEnds("A{%{?a<b{!1;}^2;}e{}!3;}", 1, 1);
         dueEnds("A{^1;a=B(1,2);}B{!1;}", 2, 1);
+        for (char variable : "abcdef".toCharArray()) {
+            dueEnds("A{%{!1;}" + variable + "{}}", 0, 1);
+            dueEnds("A{%{c=B(1,2);}" + variable + "{}}B{!1;}", 2, 1);
+        }
         dueEnds("A{a=B(1,2);}B{a=C(1,2);}C{a=D(1,2);}D{a=E(1,2);}E{!1;}", 31, 0);
         dueEnds("A{a=B(1,2);}B{a=C(1,2);}C{a=D(1,2);}D{a=E(1,2);}E{}", 0, 31);
         dueEnds("A{a=B(1,2);}B{a=C(1,2);}C{%{a=D(1,2);}e{}}D{a=E(1,2);}E{!1;}", 24, 7);
@@ -180,6 +186,11 @@ public final class HangEdgeTest {
         dueEnds("A{a=B(1,2);}B{?a<1{!1;}a=A(1,2);}", 3, 0);
         dueEnds("A{a=B(1,2);}B{?a<1{^1;}a=A(1,2);}", 0, 3);
         dueEnds("A{?a<b{^1;}%{a=A(1,2);}e{!e;}}", 0, 1);
+        String chain = "A{a=B(1,2);}B{a=C(1,2);}C{a=D(1,2);}D{a=E(1,2);}";
+        dueEnds(chain + "E{?a<b{!1;}%{a=A(1,2);}e{}}", 31, 31);
+        dueEnds(chain + "E{?a<b{!1;}a=A(1,2);}", 31, 0);
+        dueEnds(chain + "E{?a<b{^1;}%{a=A(1,2);}e{!2;}}", 0, 31);
+        dueEnds(chain + "E{?a<b{^1;}a=A(1,2);!2;}", 31, 31);
     }
 
     private static void toldBySet() {
@@ -357,6 +368,7 @@ public final class HangEdgeTest {
         dueHangs("A{?a<b{^1;}:{^2;}c=1;}", "1-0=2 2-0=2 3-1=2 3-2=2");
         dueHangs("A{@a<b{}}", "0-0=2");
         dueHangs("A{@a<b{?a<1{^2;}}}", "0-1=2 0-2=2 1-0=2 2-1=2");
+        DUE.is("the first statement on a later one", Feeding.with("A{@a<b{^1;}}").back(0), Due.bits(0, 1));
         dueHangs("A{%{?a<b{!1;}c=1;}e{d=1;}f=1;}", "1-0=2 2-0=2 2-1=2 3-1=2");
     }
 
@@ -395,6 +407,39 @@ public final class HangEdgeTest {
         DUE.is("by none", y.back(2), Due.bits(2));
         CallSlicer z = Feeding.with("A{?a<1{c=B(1,2);}}B{^a;}");
         DUE.is("from within, by its in and its begin", z.back(2), Due.bits(0, 1, 2));
+        CallSlicer u = Feeding.with("A{c=B(1,2);}B{w=3;}C{d=A(1,2);}");
+        DUE.is("a field that the first one brings", u.backOf(0, 2), Due.bits(0, 1, 2));
+        DUE.is("a value that none brings", u.backOf(0, 0), 0);
+    }
+
+    private static void upToCalls() {
+        DUE.sentence("UP: BEGIN on each CALL of it, its IN k on IN k of each CALL of it");
+        CallSlicer x = Feeding.with("A{?a<b{c=B(1,2);}d=3;e=B(4,d);}B{w=1;f=b;}C{w=2;}");
+        DUE.is("by its begin", x.back(4), Due.bits(0, 1, 3, 4));
+        DUE.is("by IN 1, too", x.back(5), Due.bits(0, 1, 2, 3, 5));
+        DUE.is("nothing calls it", x.back(6), Due.bits(6));
+        CallSlicer y = Feeding.with("A{c=B(1,2);}B{^1;}");
+        DUE.is("the very first statement", y.back(1), Due.bits(0, 1));
+        CallSlicer z = Feeding.with("A{^a;}B{c=1;d=A(c,2);}");
+        DUE.is("A, as any other", z.back(0), Due.bits(0, 1, 2));
+        CallSlicer u = Feeding.with("A{^b;}B{c=1;d=A(c,2);}");
+        DUE.is("not what it is given for a", u.back(0), Due.bits(0, 2));
+        CallSlicer v = Feeding.with("A{@a<b{^w;}}B{x=1;w=2;c=A(3,4);}");
+        DUE.is("IN 2 alone", v.back(1), Due.bits(0, 1, 3, 4));
+    }
+
+    private static void downFromCalls() {
+        DUE.sentence("DOWN: OUT k of a CALL on OUT k of what it calls");
+        CallSlicer x = Feeding.with("A{c=B(1,2);^c;d=w;e=x;}B{w=3;x=4;^5;}C{w=6;^7;}");
+        DUE.is("OUT 0", x.back(1), Due.bits(0, 1, 6));
+        CallSlicer y = Feeding.with("A{c=B(1,2);d=w;e=x;}B{w=3;x=4;^5;}C{w=6;^7;}");
+        DUE.is("OUT 2", y.back(1), Due.bits(0, 1, 3));
+        DUE.is("OUT 3", y.back(2), Due.bits(0, 2, 4));
+        DUE.is("a call, all of them", y.back(0), Due.bits(0, 3, 4, 5));
+        CallSlicer z = Feeding.with("A{c=B(1,2);}B{}");
+        DUE.is("OUT 0 of what is called is not on calls", z.backOf(1, 0), 0);
+        DUE.is("nor OUT 1", z.backOf(1, 1), 0);
+        DUE.is("a field, by IN", z.backOf(1, 2), Due.bits(0));
     }
 
     private static void matching() {
@@ -470,6 +515,19 @@ public final class HangEdgeTest {
         DUE.is("y to how", z.summary(2, 4, 1), false);
         DUE.is("y to y", z.summary(2, 4, 4), true);
         DUE.is("y to z", z.summary(2, 4, 5), false);
+        CallSlicer u = Feeding.with("A{?a<1{^0;}c=A(b,0);}");
+        DUE.is("a to the value", u.summary(2, 0, 0), true);
+        DUE.is("b to the value: only by another call", u.summary(2, 1, 0), false);
+        CallSlicer v = Feeding.with("A{?a<1{^0;}w=x;x=y;y=z;c=A(b,w);^c;}");
+        for (int i = 0; i < 6; i++) {
+            DUE.is("IN " + i + ", by calls in one another", v.summary(5, i, 0), i != 2);
+        }
+        CallSlicer t = Feeding.with("A{c=B(a,b);^c;}B{c=C(a,b);^c;}C{c=D(a,b);^c;}D{c=E(a,b);^c;}"
+            + "E{?a<1{^0;}w=x;x=y;y=z;c=A(b,w);^c;}");
+        for (int i = 0; i < 6; i++) {
+            DUE.is("IN " + i + ", by five of them", t.summary(0, i, 0), i != 2);
+            DUE.is("IN " + i + ", by five of them", t.summary(13, i, 0), i != 2);
+        }
     }
 
     private static void keptCalls() {
@@ -484,6 +542,17 @@ public final class HangEdgeTest {
         CallSlicer u = Feeding.with("A{f=6;e=C(f,1);d=B(e,1);x=w;c=B(2,3);b=C(7,8);?c<x{?b<y{^c;}}}B{w=b;^a;}C{y=a;^b;}");
         DUE.is("back", u.back(8), Due.bits(2, 3, 4, 5, 6, 7, 8, 9, 10, 11, 12));
         DUE.is("and so on", u.kept(8), (1L << 13) - 1);
+        CallSlicer v = Feeding.with("A{w=b;^a;}B{e=6;d=A(e,1);x=w;c=A(2,3);?c<x{^c;}}");
+        DUE.is("back, with A as what is called", v.back(7), Due.bits(0, 1, 3, 4, 5, 6, 7));
+        DUE.is("kept, with A as what is called", v.kept(7), Due.bits(0, 1, 2, 3, 4, 5, 6, 7));
+        CallSlicer w = Feeding.with("A{e=C(1,2);f=x;d=C(3,4);^f;}B{^1;}C{d=B(3,4);x=d;}");
+        DUE.is("OUT 0 of B in it is not meant", w.kept(3), Due.bits(0, 1, 3, 4, 5, 6));
+        for (int k = 1; k <= 17; k++) {
+            CallSlicer t = Feeding.with("A{e=6;" + "d=B(e,1);e=w;".repeat(k) + "c=B(2,3);f=c+e;}B{w=b;^a;}");
+            int n = 2 * k;
+            DUE.is("back over " + k, t.back(n + 2), Due.bits(n - 1, n, n + 1, n + 2, n + 3, n + 4));
+            DUE.is("and so on, " + k + " times", t.kept(n + 2), (1L << n + 5) - 1);
+        }
     }
 
     private static void dueKept(CallSlicer x, int statement, int a, int b, long... want) {

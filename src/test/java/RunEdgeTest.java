@@ -151,6 +151,10 @@ public final class RunEdgeTest {
         dueRun("A{c=3;%{c=B(1,2);w=1;}d{x=d;}y=c;}B{!6;}", 0, 0, 0, 0, 5, 0, 6, 3);
         dueRun("A{c=3;%{c=B(1,2);w=1;}c{x=c;}y=c;}B{!6;}", 0, 0, 0, 0, 5, 0, 6, 6);
         dueRun("A{c=3;%{c=B(1,2);w=1;}d{x=d;}y=c;}B{^6;}", 0, 0, 0, 0, 5, 1, 0, 6);
+        for (char variable : "abcdef".toCharArray()) {
+            dueRun("A{%{c=B(1,2);w=1;}" + variable + "{^" + variable + ";}}B{!6;}", 0, 0, 0, 6, 3, 0);
+            dueRun("A{%{c=B(1,2);w=1;}" + variable + "{^" + variable + ";}}B{%{!5;}" + variable + "{!6;}}", 0, 0, 0, 6, 4, 0);
+        }
         dueRun("A{%{}d{x=d;}c=B(1,2);}B{!6;}", 0, 0, 1, 6, 2, 0, 0);
         dueRun("A{%{!1;}d{c=B(1,2);}}B{!6;}", 0, 0, 1, 6, 3);
         dueRun("A{%{c=B(1,2);}d{x=d;}}B{%{!6;}a{w=a;}}", 0, 0, 0, 0, 3, 6, 0);

@@ -263,10 +263,27 @@ public final class TextEdgeTest {
                 DUE.is("its depth", x.of(x.count(0) - 1, 2), 6);
             }
         }
+        sixDeepRuns();
         String six = "A{" + "?a<b{".repeat(6);
         DUE.fault(six + "}:{?1<2{", 4, six.length() + 7);
         DUE.fault("A{" + "%{".repeat(6) + "}a{%{", 4, 2 + 12 + 4);
         DUE.fault("A{}B{" + "%{".repeat(7), 4, 5 + 13);
+    }
+
+    /** What lies 6 deep is come to, whatever the blocks are in which it lies. */
+    private static void sixDeepRuns() {
+        String[] opens = {"?1<2{", "?2<1{}:{", "@w<1{", "%{", "%{!1;}a{"};
+        String[] closes = {"}", "}", "}", "}c{}", "}"};
+        for (int outer = 0; outer < opens.length; outer++) {
+            for (int inner = 0; inner < opens.length; inner++) {
+                CallSlicer x = Feeding.with("A{" + opens[outer].repeat(5) + opens[inner] + "w=1;" + closes[inner]
+                    + closes[outer].repeat(5) + "x=w;}");
+                x.run(0, 0);
+                DUE.is("it is done", x.ended(3), 1);
+                DUE.is("and what stands behind it", x.ended(4), 1);
+                DUE.is("which hangs on it", x.hangs(x.count(0) - 1, x.count(0) - 2), 1);
+            }
+        }
     }
 
     private static void firstAlongText() {
